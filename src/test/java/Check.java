@@ -1,0 +1,46 @@
+/** What every test here shares: it counts and prints the answers that are not the ones that are due. */
+final class Check {
+    interface Call {
+        int answer();
+    }
+
+    static final Class<? extends RuntimeException> NO_SUCH = IndexOutOfBoundsException.class;
+    static final Class<? extends RuntimeException> OUT_OF_RANGE = IllegalArgumentException.class;
+    static final Class<? extends RuntimeException> REFUSED = IllegalStateException.class;
+
+    private static int checks = 0;
+    private static int wrong = 0;
+
+    private Check() {
+    }
+
+    static void due(String what, Object got, Object want) {
+        checks++;
+        if (!got.equals(want)) {
+            wrong++;
+            System.out.println(what + " answered " + got + ", due is " + want);
+        }
+    }
+
+    /** The very class is due: a subclass of it would be one that the machine throws. */
+    static void dueThrow(String what, Class<? extends RuntimeException> kind, Call call) {
+        due(what, outcome(call), kind.getName());
+    }
+
+    static Object outcome(Call call) {
+        try {
+            return call.answer();
+        } catch (RuntimeException e) {
+            return e.getClass().getName();
+        }
+    }
+
+    static boolean hasFailed() {
+        return wrong > 0;
+    }
+
+    static void end() {
+        System.out.println(checks + " checks, " + wrong + " wrong");
+        System.exit(wrong == 0 ? 0 : 1);
+    }
+}
