@@ -367,7 +367,7 @@ public final class SheetMaker {
             list.add(road);
         }
 
-        /** Every sheet asks for the points left, so they are found once, here, after each change of a road, and kept. */
+        /** Every sheet asks for the points left, so they are found once after each change of a road, and kept. */
         void generalise() {
             for (int r = 0; r < list.size(); r++) {
                 Road road = list.get(r);
@@ -582,7 +582,7 @@ public final class SheetMaker {
         }
     }
 
-    /** What a sheet looks like: where the label of each name starts, and the points that are left of each road on it. */
+    /** What a sheet looks like: where the label of each name starts, and the points left of each road on it. */
     private static final class Picture {
         private final int[] starts = new int[MOST_NAMES];
         private final int[] sides = new int[MOST_NAMES];

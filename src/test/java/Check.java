@@ -22,7 +22,7 @@ final class Check {
         }
     }
 
-    /** The very class is due: a subclass of it would be one that the machine throws. */
+    /** The very class is due, and thrown by the program: the library's lists throw one of these by themselves. */
     static void dueThrow(String what, Class<? extends RuntimeException> kind, Call call) {
         due(what, outcome(call), kind.getName());
     }
@@ -31,7 +31,9 @@ final class Check {
         try {
             return call.answer();
         } catch (RuntimeException e) {
-            return e.getClass().getName();
+            String thrower = e.getStackTrace()[0].getClassName();
+            boolean ownThrow = thrower.startsWith("SheetMaker") || thrower.startsWith("Model");
+            return e.getClass().getName() + (ownThrow ? "" : " thrown by " + thrower);
         }
     }
 

@@ -17,6 +17,7 @@ final class PrintTests {
         roadsMakeErrata();
         samePointsAreNoErrata();
         errataAreCountedTogether();
+        everyPointOfEveryRoadIsPrinted();
         sheetsAreOfTheirOwn();
         Check.end();
     }
@@ -249,6 +250,21 @@ final class PrintTests {
         maker.move(3, 1, 6, 3);
         maker.shift(9, 10, 28);
         Check.due("two points of one road, and a name", maker.errata(0), 2);
+    }
+
+    private static void everyPointOfEveryRoadIsPrinted() {
+        SheetMaker maker = oneSheet();
+        for (int r = 0; r < 8; r++) {
+            RoadTests.addRoad(maker, 0, 0, r, 1, r, 2, r, 3, r, 4, r, 5, r, 6, r, 7, r);
+        }
+        maker.print(0, 1);
+        for (int r = 0; r < 8; r++) {
+            for (int p = 0; p < 8; p++) {
+                maker.move(r, p, p, r + 20);
+                Check.due("road " + r + " has its point " + p + " elsewhere", maker.errata(0), 1);
+                Check.due("and back again", maker.move(r, p, p, r), 0);
+            }
+        }
     }
 
     private static void sheetsAreOfTheirOwn() {

@@ -48,7 +48,7 @@ final class ScaleTests {
         }
     }
 
-    /** Each row: how long the way is and how far off it point 1 lies (the triangle is their product), and what is left. */
+    /** Each row: how long the way is, how far off point 1 lies (the triangle is their product), what is left. */
     private static void triangleMustBeLess() {
         int[][] ways = {{19, 1, 5, 5, 5}, {20, 1, 7, 5, 5}, {39, 1, 7, 5, 5}, {20, 2, 7, 7, 5}, {29, 2, 7, 7, 5},
             {20, 3, 7, 7, 7}, {30, 2, 7, 7, 7}};

@@ -63,7 +63,8 @@ final class SheetTests {
 
     private static void dueOn(SheetMaker maker, int left, int low, int right, int high, int fold, int want) {
         int sheet = maker.sheet(0, left, low, right, high, fold);
-        Check.due("label on " + left + " " + low + " " + right + " " + high + " fold " + fold, maker.label(sheet, 0), want);
+        String what = "label on " + left + " " + low + " " + right + " " + high + " fold " + fold;
+        Check.due(what, maker.label(sheet, 0), want);
     }
 
     private static void sidesAreTriedInTheirOrder() {
