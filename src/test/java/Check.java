@@ -10,15 +10,21 @@ final class Check {
 
     private static int checks = 0;
     private static int wrong = 0;
+    private static String sentence = "";
 
     private Check() {
+    }
+
+    /** The document's words that the checks from here on hold to; they are printed with what is wrong. */
+    static void sentence(String words) {
+        sentence = " (" + words + ")";
     }
 
     static void due(String what, Object got, Object want) {
         checks++;
         if (!got.equals(want)) {
             wrong++;
-            System.out.println(what + " answered " + got + ", due is " + want);
+            System.out.println(what + " answered " + got + ", due is " + want + sentence);
         }
     }
 
