@@ -25,6 +25,8 @@ final class TermTests {
         amountsAreTwiceTheArea();
         otherRoadsKeepPlaces();
         goneAndHiddenPointsOfOtherRoads();
+        anyTwoPointsMeet();
+        pairsAreOfTwoRoads();
         Check.end();
     }
 
@@ -319,5 +321,37 @@ final class TermTests {
         RoadTests.addRoad(own, 3, 9, 9, 5, 9, 9, 9, 12, 9);
         Check.due("a road's own points keep none of it", own.left(0, 1), 0b1001);
         Check.due("nor does it meet itself", own.meetings(1), 0);
+    }
+
+    private static void dueMeetings(String what, SheetMaker maker, int scale, int want) {
+        Check.due("meetings " + what + " on " + scale, maker.meetings(scale), want);
+        Check.due("meetingsByPairs " + what + " on " + scale, maker.meetingsByPairs(scale), want);
+    }
+
+    private static void anyTwoPointsMeet() {
+        Check.sentence("pairs of roads that a scale shows have a point that is left of each at one place");
+        for (int p = 0; p < 8; p++) {
+            for (int q = 0; q < 8; q++) {
+                SheetMaker maker = new SheetMaker();
+                RoadTests.addRoad(maker, 3, 0, 9, 1, 9, 2, 9, 3, 9, 4, 9, 5, 9, 6, 9, 7, 9);
+                RoadTests.addRoad(maker, 2, 9, 0, 9, 1, 9, 2, 9, 3, 9, 4, 9, 5, 9, 6, 9, 7);
+                dueMeetings("apart", maker, 0, 0);
+                maker.move(1, q, p, 9);
+                for (int scale = 0; scale <= 3; scale++) {
+                    dueMeetings("at " + p + " and " + q, maker, scale, scale <= 2 ? 1 : 0);
+                }
+            }
+        }
+    }
+
+    private static void pairsAreOfTwoRoads() {
+        Check.sentence("how many pairs of roads");
+        SheetMaker maker = new SheetMaker();
+        dueMeetings("of no roads", maker, 0, 0);
+        for (int road = 0; road < 8; road++) {
+            RoadTests.addRoad(maker, 3, 20, 20, 0, road, 20, 20, 0, road);
+            dueMeetings("of " + (road + 1) + " roads", maker, 0, road * (road + 1) / 2);
+            dueMeetings("of " + (road + 1) + " roads", maker, 3, road * (road + 1) / 2);
+        }
     }
 }
