@@ -2,9 +2,6 @@
 final class TermTests {
     private static final int NONE = SheetMaker.NONE;
     private static final int RIGHT = SheetMaker.RIGHT;
-    private static final int LEFT = SheetMaker.LEFT;
-    private static final int ABOVE = SheetMaker.ABOVE;
-    private static final int BELOW = SheetMaker.BELOW;
     private static final int LAST = 39;
 
     private TermTests() {
