@@ -15,20 +15,24 @@ final class NameTests {
     private static void namesAreNumbered() {
         SheetMaker maker = new SheetMaker();
         maker.sheet(0, 0, 0, 39, 39, SheetMaker.NONE);
+        Check.sentence("Promise 5: Returns its number");
         for (int n = 0; n < 10; n++) {
             Check.due("number of a name", maker.name(10, 3 * n, 8, n % 4), n);
         }
+        Check.sentence("Promise 5: Adds a name");
         for (int n = 0; n < 10; n++) {
             Check.due("place of a name", maker.at(0, 11, 3 * n), n);
             Check.due("length of a name", maker.at(0, 18, 3 * n), n);
             Check.due("no longer than that", maker.at(0, 19, 3 * n), SheetMaker.NONE);
         }
+        Check.sentence("Promise 5: Throws IllegalStateException if there are 10");
         Check.dueThrow("an eleventh name", Check.REFUSED, () -> maker.name(0, 0, 1, 0));
         Check.dueThrow("an eleventh name out of range", Check.OUT_OF_RANGE, () -> maker.name(40, 0, 1, 0));
         Check.dueThrow("its number", Check.NO_SUCH, () -> maker.shift(10, 0, 0));
     }
 
     private static void nameRefuses() {
+        Check.sentence("Promise 5: Throws IllegalArgumentException if x, y, length or rank is out of range");
         SheetMaker maker = new SheetMaker();
         int[][] wrong = {{-1, 0, 1, 0}, {40, 0, 1, 0}, {0, -1, 1, 0}, {0, 40, 1, 0}, {0, 0, 0, 0}, {0, 0, 9, 0},
             {0, 0, -1, 0}, {0, 0, 1, -1}, {0, 0, 1, 4}, {Integer.MIN_VALUE, 0, 1, 0}, {0, Integer.MAX_VALUE, 1, 0},
@@ -42,6 +46,7 @@ final class NameTests {
     }
 
     private static void shiftMovesThatNameAlone() {
+        Check.sentence("Promise 6: Moves a name");
         SheetMaker maker = new SheetMaker();
         maker.sheet(0, 0, 0, 39, 39, SheetMaker.NONE);
         maker.name(5, 5, 3, 1);
@@ -56,6 +61,7 @@ final class NameTests {
     }
 
     private static void shiftRefuses() {
+        Check.sentence("Promise 6: Throws IndexOutOfBoundsException if there is no such name");
         SheetMaker maker = new SheetMaker();
         Check.dueThrow("no name", Check.NO_SUCH, () -> maker.shift(0, 0, 0));
         maker.sheet(0, 0, 0, 39, 39, SheetMaker.NONE);
@@ -63,6 +69,7 @@ final class NameTests {
         Check.dueThrow("name 1", Check.NO_SUCH, () -> maker.shift(1, 0, 0));
         Check.dueThrow("name -1, out of range", Check.NO_SUCH, () -> maker.shift(-1, 40, 40));
         Check.dueThrow("the largest name", Check.NO_SUCH, () -> maker.shift(Integer.MAX_VALUE, 0, 0));
+        Check.sentence("Promise 6: Throws IllegalArgumentException if x or y is out of range");
         Check.dueThrow("x -1", Check.OUT_OF_RANGE, () -> maker.shift(0, -1, 0));
         Check.dueThrow("x 40", Check.OUT_OF_RANGE, () -> maker.shift(0, 40, 0));
         Check.dueThrow("y -1", Check.OUT_OF_RANGE, () -> maker.shift(0, 0, -1));
@@ -71,6 +78,7 @@ final class NameTests {
     }
 
     private static void shiftCountsTheSheetsWithErrata() {
+        Check.sentence("Promise 6: Returns how many sheets have errata then, of those that were printed");
         SheetMaker maker = new SheetMaker();
         maker.name(10, 10, 2, 2);
         for (int scale = 0; scale <= 3; scale++) {

@@ -1,17 +1,20 @@
 /** Promises 14 to 17: print, sell, stock and errata. */
 final class PrintTests {
     private static final int NONE = SheetMaker.NONE;
+    private static final int[] NO_SHEETS = {-1, 1, 6, Integer.MAX_VALUE, Integer.MIN_VALUE};
 
     private PrintTests() {
     }
 
     public static void main(String[] args) {
+        copiesArePrintedAndSold();
         printAddsToTheStock();
         printAnewThrowsOldCopiesAway();
         printRefuses();
         sellTakesFromTheStock();
         sellRefuses();
-        stockAndErrataRefuse();
+        stockRefuses();
+        errataRefuses();
         labelsMakeErrata();
         samePlacesAreNoErrata();
         roadsMakeErrata();
@@ -28,7 +31,29 @@ final class PrintTests {
         return maker;
     }
 
+    private static void copiesArePrintedAndSold() {
+        SheetMaker maker = new SheetMaker();
+        int[] copies = new int[6];
+        for (int sheet = 0; sheet < 6; sheet++) {
+            maker.sheet(sheet % 4, 0, 0, 39, 39, NONE);
+        }
+        for (int turn = 0; turn < 40; turn++) {
+            int sheet = turn % 6;
+            copies[sheet] += 1 + turn;
+            Check.sentence("Promise 14: Prints copies of a sheet");
+            Check.due("copies with " + (1 + turn) + " more", maker.print(sheet, 1 + turn), copies[sheet]);
+            copies[sheet] -= 1 + turn / 3;
+            Check.sentence("Promise 15: Sells copies of a sheet");
+            Check.due("errata of what is sold", maker.sell(sheet, 1 + turn / 3), 0);
+            Check.sentence("Promise 16: Returns the stock of a sheet");
+            for (int s = 0; s < 6; s++) {
+                Check.due("stock of sheet " + s + " in turn " + turn, maker.stock(s), copies[s]);
+            }
+        }
+    }
+
     private static void printAddsToTheStock() {
+        Check.sentence("Promise 14: Returns the stock then");
         SheetMaker maker = oneSheet();
         Check.due("a first copy", maker.print(0, 1), 1);
         Check.due("and a hundred", maker.print(0, 100), 101);
@@ -37,6 +62,7 @@ final class PrintTests {
             maker.print(0, 100);
         }
         Check.due("up to 1000", maker.print(0, 99), 1000);
+        Check.sentence("Promise 14: Throws IllegalStateException if the stock would be above 1000");
         Check.dueThrow("above 1000", Check.REFUSED, () -> maker.print(0, 1));
         Check.dueThrow("far above 1000", Check.REFUSED, () -> maker.print(0, 100));
         Check.due("stock as it was", maker.stock(0), 1000);
@@ -45,6 +71,7 @@ final class PrintTests {
     }
 
     private static void printAnewThrowsOldCopiesAway() {
+        Check.sentence("printing it anew while it has errata throws the old copies away");
         SheetMaker maker = oneSheet();
         maker.name(5, 5, 2, 0);
         Check.due("labels ahead of the first print are no errata", maker.errata(0), 0);
@@ -61,9 +88,11 @@ final class PrintTests {
     }
 
     private static void printRefuses() {
+        Check.sentence("Promise 14: Throws IndexOutOfBoundsException if there is no such sheet");
         SheetMaker maker = oneSheet();
         Check.dueThrow("print of sheet -1", Check.NO_SUCH, () -> maker.print(-1, 0));
         Check.dueThrow("print of sheet 1", Check.NO_SUCH, () -> maker.print(1, 101));
+        Check.sentence("Promise 14: Throws IllegalArgumentException if many is out of range");
         Check.dueThrow("print of none", Check.OUT_OF_RANGE, () -> maker.print(0, 0));
         Check.dueThrow("print of 101", Check.OUT_OF_RANGE, () -> maker.print(0, 101));
         Check.dueThrow("print of -1", Check.OUT_OF_RANGE, () -> maker.print(0, -1));
@@ -75,12 +104,14 @@ final class PrintTests {
             maker.print(0, 100);
         }
         Check.dueThrow("print of 101 to a full stock", Check.OUT_OF_RANGE, () -> maker.print(0, 101));
+        Check.sentence("Promise 14: Throws IllegalStateException if the stock would be above 1000");
         Check.dueThrow("print to a full stock", Check.REFUSED, () -> maker.print(0, 100));
         maker.shift(0, 6, 5);
         Check.due("errata are against the last print", maker.errata(0), 1);
     }
 
     private static void sellTakesFromTheStock() {
+        Check.sentence("Promise 15: Returns the errata that go with them");
         SheetMaker maker = oneSheet();
         maker.name(5, 5, 2, 0);
         maker.name(5, 9, 2, 0);
@@ -103,31 +134,43 @@ final class PrintTests {
     }
 
     private static void sellRefuses() {
+        Check.sentence("Promise 15: Throws IndexOutOfBoundsException if there is no such sheet");
         SheetMaker maker = oneSheet();
         Check.dueThrow("sell of sheet -1", Check.NO_SUCH, () -> maker.sell(-1, 0));
         Check.dueThrow("sell of sheet 1", Check.NO_SUCH, () -> maker.sell(1, 1001));
-        Check.dueThrow("sell of what was not printed", Check.REFUSED, () -> maker.sell(0, 1));
-        Check.dueThrow("sell of 1000 not printed", Check.REFUSED, () -> maker.sell(0, 1000));
+        Check.sentence("Promise 15: Throws IllegalArgumentException if many is out of range");
         Check.dueThrow("sell of none", Check.OUT_OF_RANGE, () -> maker.sell(0, 0));
         Check.dueThrow("sell of -1", Check.OUT_OF_RANGE, () -> maker.sell(0, -1));
         Check.dueThrow("sell of 1001", Check.OUT_OF_RANGE, () -> maker.sell(0, 1001));
+        Check.dueThrow("sell of the least", Check.OUT_OF_RANGE, () -> maker.sell(0, Integer.MIN_VALUE));
+        Check.sentence("Promise 15: Throws IllegalStateException if the stock is less");
+        Check.dueThrow("sell of what was not printed", Check.REFUSED, () -> maker.sell(0, 1));
+        Check.dueThrow("sell of 1000 not printed", Check.REFUSED, () -> maker.sell(0, 1000));
         maker.print(0, 10);
         Check.dueThrow("sell of more than there are", Check.REFUSED, () -> maker.sell(0, 11));
-        Check.dueThrow("sell of the least", Check.OUT_OF_RANGE, () -> maker.sell(0, Integer.MIN_VALUE));
         Check.due("stock as it was", maker.stock(0), 10);
         Check.due("sell of all", maker.sell(0, 10), 0);
     }
 
-    private static void stockAndErrataRefuse() {
+    private static void stockRefuses() {
+        Check.sentence("Promise 16: Throws IndexOutOfBoundsException if there is no such sheet");
         SheetMaker maker = oneSheet();
-        int[] none = {-1, 1, 6, Integer.MAX_VALUE, Integer.MIN_VALUE};
-        for (int number : none) {
+        for (int number : NO_SHEETS) {
             Check.dueThrow("stock of sheet " + number, Check.NO_SUCH, () -> maker.stock(number));
+        }
+    }
+
+    private static void errataRefuses() {
+        Check.sentence("Promise 17: Throws IndexOutOfBoundsException if there is no such sheet");
+        SheetMaker maker = oneSheet();
+        for (int number : NO_SHEETS) {
             Check.dueThrow("errata of sheet " + number, Check.NO_SUCH, () -> maker.errata(number));
         }
     }
 
     private static void labelsMakeErrata() {
+        Check.sentence("the names whose label is another one, or none, or there is one, other than when it was "
+            + "printed last");
         SheetMaker maker = oneSheet();
         maker.print(0, 1);
         maker.name(5, 5, 2, 0);
@@ -150,6 +193,7 @@ final class PrintTests {
     }
 
     private static void samePlacesAreNoErrata() {
+        Check.sentence("Labels are the same if they take the same places");
         SheetMaker maker = new SheetMaker();
         maker.sheet(0, 0, 0, 11, 39, NONE);
         maker.name(5, 5, 3, 0);
@@ -172,6 +216,8 @@ final class PrintTests {
     }
 
     private static void roadsMakeErrata() {
+        Check.sentence("and the roads that are there and were not, or were and are not, or have other points left "
+            + "than then");
         SheetMaker maker = new SheetMaker();
         maker.sheet(1, 10, 10, 19, 19, NONE);
         maker.print(0, 1);
@@ -198,6 +244,7 @@ final class PrintTests {
     }
 
     private static void samePointsAreNoErrata() {
+        Check.sentence("points left are the same if they are at the same places in the same order");
         SheetMaker maker = new SheetMaker();
         maker.sheet(1, 0, 0, 39, 39, NONE);
         RoadTests.addRoad(maker, 1, 0, 0, 10, 10, 20, 0, 30, 0);
@@ -224,6 +271,7 @@ final class PrintTests {
     }
 
     private static void turnedRoads() {
+        Check.sentence("points left are the same if they are at the same places in the same order");
         SheetMaker maker = new SheetMaker();
         maker.sheet(0, 0, 0, 39, 39, NONE);
         RoadTests.addRoad(maker, 0, 0, 0, 20, 5, 30, 30);
@@ -235,6 +283,7 @@ final class PrintTests {
     }
 
     private static void errataAreCountedTogether() {
+        Check.sentence("Promise 17: Returns how many errata a sheet has");
         SheetMaker maker = oneSheet();
         maker.print(0, 7);
         for (int n = 0; n < 10; n++) {
@@ -253,6 +302,7 @@ final class PrintTests {
     }
 
     private static void everyPointOfEveryRoadIsPrinted() {
+        Check.sentence("or have other points left than then");
         SheetMaker maker = oneSheet();
         for (int r = 0; r < 8; r++) {
             RoadTests.addRoad(maker, 0, 0, r, 1, r, 2, r, 3, r, 4, r, 5, r, 6, r, 7, r);

@@ -40,7 +40,7 @@ final class RefusalTests {
     private static void refused(String what, Class<? extends RuntimeException> kind, Taking call) {
         SheetMaker one = making.make();
         SheetMaker other = making.make();
-        Check.sentence("the first line of a method's throws clause that applies decides");
+        Check.sentence("The first line of a method's throws clause that applies decides");
         Check.dueThrow(state + what, kind, () -> call.with(one));
         Check.sentence("a call that throws changes nothing");
         Check.dueThrow(state + what + " again", kind, () -> call.with(one));

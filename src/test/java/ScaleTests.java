@@ -13,8 +13,10 @@ final class ScaleTests {
         placesOfOtherRoadsStay();
         hiddenRoadsKeepNoPlaces();
         ownPlacesAndGonePoints();
+        leftIsTheSetOfPoints();
         pairsAreCountedOnce();
-        scalesRefuse();
+        pointsAndLeftRefuse();
+        meetingsRefuse();
         Check.end();
     }
 
@@ -29,6 +31,7 @@ final class ScaleTests {
     }
 
     private static void scaleZeroKeepsAllPoints() {
+        Check.sentence("Promise 7: Returns how many points of a road are left on a scale");
         SheetMaker maker = new SheetMaker();
         RoadTests.addRoad(maker, 3, 0, 0, 1, 0, 2, 0, 3, 0, 4, 0, 5, 0, 6, 0, 7, 0);
         dueLeft("a straight road on scale 0", maker, 0, 0, 255);
@@ -39,6 +42,7 @@ final class ScaleTests {
     }
 
     private static void hiddenRoadsHaveNothingLeft() {
+        Check.sentence("Promise 7: Returns how many; 0 if it is not shown");
         for (int rank = 0; rank <= 3; rank++) {
             SheetMaker maker = new SheetMaker();
             RoadTests.addRoad(maker, rank, 0, 0, 30, 0, 30, 30);
@@ -50,6 +54,7 @@ final class ScaleTests {
 
     /** Each row: how long the way is, how far off point 1 lies (the triangle is their product), what is left. */
     private static void triangleMustBeLess() {
+        Check.sentence("A point may go if this is less than 20 times the scale");
         int[][] ways = {{19, 1, 5, 5, 5}, {20, 1, 7, 5, 5}, {39, 1, 7, 5, 5}, {20, 2, 7, 7, 5}, {29, 2, 7, 7, 5},
             {20, 3, 7, 7, 7}, {30, 2, 7, 7, 7}};
         for (int[] way : ways) {
@@ -69,6 +74,7 @@ final class ScaleTests {
     }
 
     private static void leastTriangleGoesFirst() {
+        Check.sentence("the one goes whose triangle is least");
         SheetMaker maker = new SheetMaker();
         // Point 2 (6) goes ahead of point 1 (9), whose triangle is 40 then.
         RoadTests.addRoad(maker, 3, 0, 0, 8, 3, 11, 3, 16, 1);
@@ -79,6 +85,7 @@ final class ScaleTests {
     }
 
     private static void lowestNumberGoesOfEqualOnes() {
+        Check.sentence("of several the one with the lowest number");
         SheetMaker maker = new SheetMaker();
         // Both triangles are 15; either one's going makes the other's 30.
         RoadTests.addRoad(maker, 3, 0, 0, 5, 3, 10, 3, 15, 0);
@@ -90,6 +97,7 @@ final class ScaleTests {
     }
 
     private static void trianglesFollowWhatIsLeft() {
+        Check.sentence("The triangle of a point is that with the point left ahead of it and the point left behind it");
         SheetMaker maker = new SheetMaker();
         // An arc of many small steps: each one's going makes its neighbours' triangles larger.
         RoadTests.addRoad(maker, 3, 0, 0, 3, 1, 6, 0, 9, 4, 12, 0, 15, 0, 18, 0, 21, 9);
@@ -99,6 +107,7 @@ final class ScaleTests {
     }
 
     private static void placesOfOtherRoadsStay() {
+        Check.sentence("and no other road that the scale shows has a point at its place");
         SheetMaker maker = new SheetMaker();
         RoadTests.addRoad(maker, 3, 0, 0, 10, 0, 20, 0, 30, 0);
         dueLeft("a road alone", maker, 0, 3, 9);
@@ -115,6 +124,7 @@ final class ScaleTests {
     }
 
     private static void hiddenRoadsKeepNoPlaces() {
+        Check.sentence("and no other road that the scale shows has a point at its place");
         SheetMaker maker = new SheetMaker();
         RoadTests.addRoad(maker, 1, 10, 0, 10, 9);
         RoadTests.addRoad(maker, 3, 0, 0, 10, 0, 20, 0);
@@ -125,6 +135,7 @@ final class ScaleTests {
     }
 
     private static void ownPlacesAndGonePoints() {
+        Check.sentence("of all its points, gone or not");
         SheetMaker maker = new SheetMaker();
         RoadTests.addRoad(maker, 3, 0, 0, 5, 0, 9, 0, 5, 0, 0, 0);
         dueLeft("a road's own places keep nothing", maker, 0, 1, 17);
@@ -140,7 +151,33 @@ final class ScaleTests {
         dueMeetings("inner points meet", both, 3, 1);
     }
 
+    /** A straight road, and another one that keeps each set of its inner points. */
+    private static void leftIsTheSetOfPoints() {
+        for (int kept = 0; kept < 64; kept++) {
+            SheetMaker maker = new SheetMaker();
+            RoadTests.addRoad(maker, 3, 0, 9, 1, 9, 2, 9, 3, 9, 4, 9, 5, 9, 6, 9, 7, 9);
+            int set = 1 + 128;
+            maker.draft(30, 30);
+            for (int p = 1; p <= 6; p++) {
+                if ((kept >> p - 1 & 1) != 0) {
+                    maker.draft(p, 9);
+                    set += 1 << p;
+                }
+            }
+            maker.draft(31, 31);
+            maker.road(3);
+            Check.sentence("Promise 8: Returns which points of a road are left on a scale");
+            Check.due("first and last, and set " + kept + " of the others", maker.left(0, 2), set);
+            Check.sentence("Promise 8: Returns the set: the point p counts 2 to the power of p");
+            Check.due("all of them", maker.left(0, 0), 1 + 2 + 4 + 8 + 16 + 32 + 64 + 128);
+            Check.sentence("Promise 7: Returns how many points of a road are left on a scale");
+            Check.due("first and last, and some of the others", maker.points(0, 2), 2 + Integer.bitCount(kept));
+        }
+    }
+
     private static void pairsAreCountedOnce() {
+        Check.sentence("Promise 9: Returns how many pairs of roads that a scale shows have a point that is left of "
+            + "each at one place");
         SheetMaker maker = new SheetMaker();
         for (int r = 0; r < 8; r++) {
             RoadTests.addRoad(maker, r / 2, r, 30, 20, 20, r, 10);
@@ -152,30 +189,42 @@ final class ScaleTests {
         maker.move(7, 1, 20, 21);
         dueMeetings("one went elsewhere", maker, 0, 21);
         dueMeetings("none is left", maker, 3, 0);
+        Check.sentence("Promise 10: Returns how many pairs");
         SheetMaker lines = new SheetMaker();
         RoadTests.addRoad(lines, 3, 0, 0, 10, 10);
         RoadTests.addRoad(lines, 3, 0, 10, 10, 0);
         dueMeetings("lines that cross where no point is", lines, 0, 0);
     }
 
-    private static void scalesRefuse() {
+    private static void pointsAndLeftRefuse() {
         SheetMaker maker = new SheetMaker();
         RoadTests.addRoad(maker, 3, 0, 0, 10, 0, 20, 0);
-        int[] none = {-1, Integer.MIN_VALUE, Integer.MAX_VALUE};
-        for (int number : none) {
-            refuse(maker, number, 0);
-            refuse(maker, 0, number);
+        int[] noRoads = {-1, 1, 8, Integer.MIN_VALUE, Integer.MAX_VALUE};
+        int[] noScales = {-1, 4, Integer.MIN_VALUE, Integer.MAX_VALUE};
+        for (int road : noRoads) {
+            refuse(maker, road, 0);
+            refuse(maker, road, 4);
         }
-        refuse(maker, 1, 0);
-        refuse(maker, 0, 4);
-        Check.dueThrow("meetings on scale 4", Check.NO_SUCH, () -> maker.meetings(4));
-        Check.dueThrow("meetings on scale -1", Check.NO_SUCH, () -> maker.meetings(-1));
-        Check.dueThrow("meetingsByPairs on scale 4", Check.NO_SUCH, () -> maker.meetingsByPairs(4));
-        Check.dueThrow("meetingsByPairs on scale -1", Check.NO_SUCH, () -> maker.meetingsByPairs(-1));
+        for (int scale : noScales) {
+            refuse(maker, 0, scale);
+        }
     }
 
     private static void refuse(SheetMaker maker, int road, int scale) {
+        Check.sentence("Promise 7: Throws IndexOutOfBoundsException if there is no such road or scale");
         Check.dueThrow("points of " + road + " on " + scale, Check.NO_SUCH, () -> maker.points(road, scale));
+        Check.sentence("Promise 8: Throws IndexOutOfBoundsException if there is no such road or scale");
         Check.dueThrow("left of " + road + " on " + scale, Check.NO_SUCH, () -> maker.left(road, scale));
+    }
+
+    private static void meetingsRefuse() {
+        SheetMaker maker = new SheetMaker();
+        int[] noScales = {-1, 4, Integer.MIN_VALUE, Integer.MAX_VALUE};
+        for (int scale : noScales) {
+            Check.sentence("Promise 9: Throws IndexOutOfBoundsException if there is no such scale");
+            Check.dueThrow("meetings on scale " + scale, Check.NO_SUCH, () -> maker.meetings(scale));
+            Check.sentence("Promise 10: Throws IndexOutOfBoundsException if there is no such scale");
+            Check.dueThrow("meetingsByPairs on scale " + scale, Check.NO_SUCH, () -> maker.meetingsByPairs(scale));
+        }
     }
 }

@@ -11,6 +11,7 @@ final class SheetTests {
 
     public static void main(String[] args) {
         sheetsAreNumbered();
+        sheetsAreNotPrintedYet();
         sheetRefuses();
         sidesAreTriedInTheirOrder();
         labelsTakeTheirPlaces();
@@ -20,27 +21,49 @@ final class SheetTests {
         ranksGoFirst();
         hiddenAndOffTheSheet();
         labelsDoNotGoRoundTheMap();
-        labelAndAtRefuse();
+        labelsAndNamesAreAnswered();
+        labelRefuses();
+        atRefuses();
         Check.end();
     }
 
     private static void sheetsAreNumbered() {
+        Check.sentence("Promise 11: Returns its number");
         SheetMaker maker = new SheetMaker();
         for (int s = 0; s < 6; s++) {
             Check.due("number of a sheet", maker.sheet(s % 4, s, 0, 39, 39, s - 1), s);
             Check.due("not printed yet", maker.stock(s), 0);
             Check.due("no errata yet", maker.errata(s), 0);
         }
+        Check.sentence("Promise 11: Throws IllegalStateException if there are 6");
         Check.dueThrow("a seventh sheet", Check.REFUSED, () -> maker.sheet(0, 0, 0, 39, 39, NONE));
         Check.dueThrow("a seventh sheet, out of range", Check.OUT_OF_RANGE, () -> maker.sheet(0, 0, 0, 39, 40, NONE));
         Check.dueThrow("a seventh sheet of no scale", Check.NO_SUCH, () -> maker.sheet(4, 0, 0, 39, 40, NONE));
         Check.dueThrow("its number", Check.NO_SUCH, () -> maker.stock(6));
     }
 
+    private static void sheetsAreNotPrintedYet() {
+        Check.sentence("Promise 11: Adds a sheet; it is not printed yet");
+        SheetMaker maker = oneName(10, 10, 3);
+        RoadTests.addRoad(maker, 0, 0, 0, 9, 9);
+        for (int s = 0; s < 6; s++) {
+            int sheet = s;
+            maker.sheet(0, 0, 0, 39, 39, NONE);
+            Check.due("no stock", maker.stock(sheet), 0);
+            Check.due("no errata", maker.errata(sheet), 0);
+            Check.dueThrow("nothing to sell", Check.REFUSED, () -> maker.sell(sheet, 1));
+            Check.due("a name that is shifted", maker.shift(0, 10, 11 + sheet), 0);
+            Check.due("a point that is moved", maker.move(0, 0, 0, 1 + sheet), 0);
+            Check.due("no errata of a sheet that was not printed", maker.errata(sheet), 0);
+        }
+    }
+
     private static void sheetRefuses() {
+        Check.sentence("Promise 11: Throws IndexOutOfBoundsException if there is no such scale");
         SheetMaker maker = new SheetMaker();
         Check.dueThrow("scale -1, all else out of range", Check.NO_SUCH, () -> maker.sheet(-1, -1, -1, -1, -1, -2));
         Check.dueThrow("scale 4", Check.NO_SUCH, () -> maker.sheet(4, 0, 0, 0, 0, 0));
+        Check.sentence("Promise 11: Throws IllegalArgumentException if left, low, right, high or fold is out of range");
         int most = Integer.MAX_VALUE;
         int[][] wrong = {{-1, 0, 5, 5, NONE}, {40, 0, 40, 5, NONE}, {40, 0, 39, 5, NONE}, {0, -1, 5, 5, NONE},
             {0, 40, 5, 40, NONE}, {5, 0, 4, 5, NONE}, {5, 0, 40, 5, NONE}, {0, 5, 5, 4, NONE}, {0, 5, 5, 40, NONE},
@@ -68,6 +91,7 @@ final class SheetTests {
     }
 
     private static void sidesAreTriedInTheirOrder() {
+        Check.sentence("the first one of right, left, above, below of which all places are on the sheet");
         SheetMaker maker = oneName(10, 10, 3);
         dueOn(maker, 0, 0, 39, 39, NONE, RIGHT);
         dueOn(maker, 0, 0, 12, 39, NONE, LEFT);
@@ -88,6 +112,7 @@ final class SheetTests {
     }
 
     private static void labelsTakeTheirPlaces() {
+        Check.sentence("Promise 13: Returns the name whose label takes a place on a sheet, if it were printed now");
         SheetMaker maker = oneName(10, 10, 3);
         maker.sheet(0, 0, 0, 39, 39, NONE);
         maker.sheet(0, 0, 0, 12, 39, NONE);
@@ -102,6 +127,7 @@ final class SheetTests {
     }
 
     private static void edgesAreIncluded() {
+        Check.sentence("from a left x to a right one and from a low y to a high one, all included");
         SheetMaker right = oneName(10, 10, 3);
         dueOn(right, 10, 10, 13, 10, NONE, RIGHT);
         dueOn(right, 10, 10, 12, 11, NONE, ABOVE);
@@ -122,6 +148,7 @@ final class SheetTests {
     }
 
     private static void foldsAreKeptFree() {
+        Check.sentence("none has the x of the fold");
         SheetMaker maker = oneName(10, 10, 3);
         dueOn(maker, 0, 0, 39, 39, 10, RIGHT);
         dueOn(maker, 0, 0, 39, 39, 11, LEFT);
@@ -142,6 +169,7 @@ final class SheetTests {
     }
 
     private static void labelsNeverOverlap() {
+        Check.sentence("and none is taken by a label given so far");
         SheetMaker maker = new SheetMaker();
         maker.sheet(0, 0, 0, 39, 39, NONE);
         for (int n = 0; n < 5; n++) {
@@ -166,6 +194,7 @@ final class SheetTests {
     }
 
     private static void ranksGoFirst() {
+        Check.sentence("by falling ranks, those of one rank by rising numbers");
         SheetMaker maker = new SheetMaker();
         maker.sheet(0, 0, 0, 39, 39, NONE);
         maker.name(20, 20, 4, 0);
@@ -180,6 +209,7 @@ final class SheetTests {
     }
 
     private static void hiddenAndOffTheSheet() {
+        Check.sentence("On a sheet the names that its scale shows, and whose own place is on it, are given labels");
         SheetMaker maker = new SheetMaker();
         for (int scale = 0; scale <= 3; scale++) {
             maker.sheet(scale, 10, 10, 29, 29, NONE);
@@ -209,6 +239,7 @@ final class SheetTests {
     }
 
     private static void labelsDoNotGoRoundTheMap() {
+        Check.sentence("of which all places are on the sheet");
         SheetMaker maker = new SheetMaker();
         maker.sheet(0, 0, 0, 39, 39, NONE);
         maker.name(37, 10, 2, 1);
@@ -222,23 +253,52 @@ final class SheetTests {
         Check.due("too long for the left edge", maker.label(0, 4), ABOVE);
     }
 
-    private static void labelAndAtRefuse() {
+    private static void labelsAndNamesAreAnswered() {
+        SheetMaker maker = new SheetMaker();
+        maker.sheet(0, 0, 0, 39, 39, NONE);
+        for (int n = 0; n < 5; n++) {
+            maker.name(20, 20, 1, 0);
+        }
+        Check.sentence("Promise 12: Returns RIGHT, LEFT, ABOVE or BELOW; NONE if it has none");
+        int[] sides = {RIGHT, LEFT, ABOVE, BELOW, NONE};
+        for (int n = 0; n < 5; n++) {
+            Check.due("label of name " + n, maker.label(0, n), sides[n]);
+        }
+        Check.sentence("Promise 13: Returns the name; NONE if there is none");
+        int[][] places = {{21, 20}, {19, 20}, {20, 21}, {20, 19}};
+        for (int n = 0; n < 4; n++) {
+            Check.due("at the label of name " + n, maker.at(0, places[n][0], places[n][1]), n);
+        }
+        Check.due("at the names' own place", maker.at(0, 20, 20), NONE);
+    }
+
+    private static void labelRefuses() {
+        Check.sentence("Promise 12: Throws IndexOutOfBoundsException if there is no such sheet or name");
         SheetMaker maker = oneName(10, 10, 3);
         Check.dueThrow("label on no sheet", Check.NO_SUCH, () -> maker.label(0, 0));
-        Check.dueThrow("at on no sheet", Check.NO_SUCH, () -> maker.at(0, 0, 0));
         maker.sheet(0, 0, 0, 39, 39, NONE);
         int[] none = {-1, 1, Integer.MAX_VALUE, Integer.MIN_VALUE};
         for (int number : none) {
             Check.dueThrow("label on sheet " + number, Check.NO_SUCH, () -> maker.label(number, 0));
             Check.dueThrow("label of name " + number, Check.NO_SUCH, () -> maker.label(0, number));
+        }
+    }
+
+    private static void atRefuses() {
+        Check.sentence("Promise 13: Throws IndexOutOfBoundsException if there is no such sheet");
+        SheetMaker maker = oneName(10, 10, 3);
+        Check.dueThrow("at on no sheet", Check.NO_SUCH, () -> maker.at(0, 0, 0));
+        maker.sheet(0, 0, 0, 39, 39, NONE);
+        int[] none = {-1, 1, Integer.MAX_VALUE, Integer.MIN_VALUE};
+        for (int number : none) {
             Check.dueThrow("at on sheet " + number, Check.NO_SUCH, () -> maker.at(number, 40, 40));
         }
+        Check.sentence("Promise 13: Throws IllegalArgumentException if x or y is out of range");
         Check.dueThrow("at x -1", Check.OUT_OF_RANGE, () -> maker.at(0, -1, 0));
         Check.dueThrow("at x 40", Check.OUT_OF_RANGE, () -> maker.at(0, 40, 0));
         Check.dueThrow("at y -1", Check.OUT_OF_RANGE, () -> maker.at(0, 0, -1));
         Check.dueThrow("at y 40", Check.OUT_OF_RANGE, () -> maker.at(0, 0, 40));
         Check.due("the first place", maker.at(0, 0, 0), NONE);
         Check.due("the last place", maker.at(0, 39, 39), NONE);
-        Check.due("no road, on no sheet", maker.sheet(0, 0, 0, 39, 39, NONE), 1);
     }
 }

@@ -15,11 +15,15 @@ final class TermTests {
         followingPointsAreNotAtOnePlace();
         namesAreAtMostTen();
         lengthsAreOneToEight();
+        namesHaveAPlace();
+        ranksAreZeroToThree();
+        scalesAreZeroToThree();
         scalesShowTheirRanks();
         firstAndLastPointsStay();
         theLeastTriangleGoesAgainAndAgain();
         ofSeveralTheLowestGoes();
-        amountsAreTwiceTheArea();
+        amountsAreThoseOfTheProducts();
+        amountsMustBeLess();
         otherRoadsKeepPlaces();
         goneAndHiddenPointsOfOtherRoads();
         anyTwoPointsMeet();
@@ -171,7 +175,52 @@ final class TermTests {
         }
     }
 
+    private static void namesHaveAPlace() {
+        Check.sentence("a name has a place");
+        for (int x = 0; x <= LAST; x++) {
+            for (int y = 0; y <= LAST; y++) {
+                SheetMaker maker = new SheetMaker();
+                maker.sheet(0, 0, 0, LAST, LAST, NONE);
+                maker.name(x, y, 1, 0);
+                Check.due("beside the name at " + x + " " + y, maker.at(0, x < LAST ? x + 1 : x - 1, y), 0);
+                Check.due("the place itself, " + x + " " + y, maker.at(0, x, y), NONE);
+            }
+        }
+    }
+
+    private static void ranksAreZeroToThree() {
+        Check.sentence("and a rank, 0 to 3");
+        for (int rank = -2; rank <= 5; rank++) {
+            int given = rank;
+            SheetMaker maker = new SheetMaker();
+            maker.draft(0, 0);
+            maker.draft(9, 9);
+            Object want = rank >= 0 && rank <= 3 ? (Object) 0 : Check.OUT_OF_RANGE.getName();
+            Check.due("a road of rank " + rank, Check.outcome(() -> maker.road(given)), want);
+            Check.due("a name of rank " + rank, Check.outcome(() -> maker.name(5, 5, 1, given)), want);
+        }
+    }
+
     // ---- scales
+
+    private static void scalesAreZeroToThree() {
+        Check.sentence("There are the scales 0 to 3");
+        for (int asked = -2; asked <= 5; asked++) {
+            int scale = asked;
+            SheetMaker maker = new SheetMaker();
+            RoadTests.addRoad(maker, 3, 0, 0, 9, 0);
+            scaleIs("points", scale, () -> maker.points(0, scale), 2);
+            scaleIs("left", scale, () -> maker.left(0, scale), 3);
+            scaleIs("meetings", scale, () -> maker.meetings(scale), 0);
+            scaleIs("meetingsByPairs", scale, () -> maker.meetingsByPairs(scale), 0);
+            scaleIs("sheet", scale, () -> maker.sheet(scale, 0, 0, LAST, LAST, NONE), 0);
+        }
+    }
+
+    private static void scaleIs(String method, int scale, Check.Call call, int answer) {
+        Object want = scale >= 0 && scale <= 3 ? (Object) answer : Check.NO_SUCH.getName();
+        Check.due(method + " on scale " + scale, Check.outcome(call), want);
+    }
 
     private static void scalesShowTheirRanks() {
         Check.sentence("A scale shows the roads and names whose rank is the scale or greater");
@@ -215,7 +264,8 @@ final class TermTests {
     }
 
     private static void theLeastTriangleGoesAgainAndAgain() {
-        Check.sentence("as long as there are points of it that may go, the one goes whose triangle is least");
+        Check.sentence("On a scale the points of a road that is shown are made fewer: as long as there are points of "
+            + "it, other than the first and the last one, that may go, the one goes whose triangle is least");
         SheetMaker flatLater = new SheetMaker();
         // The triangles are 31, 28, 0: only point 3 may go, and point 2's is 56 then.
         RoadTests.addRoad(flatLater, 3, 0, 0, 2, 9, 7, 16, 11, 16, 15, 16);
@@ -246,8 +296,34 @@ final class TermTests {
         Check.due("of two the lower one", two.left(0, 1), 0b1101);
     }
 
+    /** The document's own formula, for many points ahead and behind on all sides of a point. */
+    private static void amountsAreThoseOfTheProducts() {
+        Check.sentence("its amount is that of the product of the width to the point behind and the height to the point "
+            + "ahead, less the product of the height to the point behind and the width to the point ahead, both seen "
+            + "from the point (twice its area)");
+        int[] steps = {-9, -7, -4, -2, -1, 0, 1, 2, 3, 5, 8};
+        for (int widthAhead : steps) {
+            for (int heightAhead : steps) {
+                for (int widthBehind : steps) {
+                    for (int heightBehind : steps) {
+                        triangleBeside(widthAhead, heightAhead, widthBehind, heightBehind);
+                    }
+                }
+            }
+        }
+    }
+
+    private static void triangleBeside(int widthAhead, int heightAhead, int widthBehind, int heightBehind) {
+        boolean isAhead = widthAhead != 0 || heightAhead != 0;
+        boolean isBehind = widthBehind != 0 || heightBehind != 0;
+        if (isAhead && isBehind) {
+            int amount = Math.abs(widthBehind * heightAhead - heightBehind * widthAhead);
+            triangleIs(amount, 20 + widthAhead, 20 + heightAhead, 20, 20, 20 + widthBehind, 20 + heightBehind);
+        }
+    }
+
     /** All triangles over a way of 39 by 1, the amounts 0 to 78 among them, and the mirrored ones. */
-    private static void amountsAreTwiceTheArea() {
+    private static void amountsMustBeLess() {
         Check.sentence("A point may go if this is less than 20 times the scale");
         boolean[] seen = new boolean[80];
         for (int x = 0; x <= LAST; x++) {
@@ -326,7 +402,7 @@ final class TermTests {
     }
 
     private static void anyTwoPointsMeet() {
-        Check.sentence("pairs of roads that a scale shows have a point that is left of each at one place");
+        Check.sentence("Promise 10: Returns the same, found from all points of all pairs of these roads, left or not");
         for (int p = 0; p < 8; p++) {
             for (int q = 0; q < 8; q++) {
                 SheetMaker maker = new SheetMaker();
@@ -342,7 +418,7 @@ final class TermTests {
     }
 
     private static void pairsAreOfTwoRoads() {
-        Check.sentence("how many pairs of roads");
+        Check.sentence("Promise 9: Returns how many pairs");
         SheetMaker maker = new SheetMaker();
         dueMeetings("of no roads", maker, 0, 0);
         for (int road = 0; road < 8; road++) {
