@@ -5,7 +5,10 @@ import java.lang.reflect.Modifier;
 import java.util.Arrays;
 import java.util.TreeSet;
 
-/** The public face: its constants, its constructor, its methods with what they throw, and no other member. */
+/**
+ * The public face: its constants, its constructor, its methods with what they throw, and no other member. The program's
+ * text, for the lines between the calls, is given to it by .ci/run.
+ */
 final class FaceTests {
     private static final String INDEX = "IndexOutOfBoundsException";
     private static final String ARGUMENT = "IllegalArgumentException";
@@ -18,15 +21,19 @@ final class FaceTests {
         constantsAreAsWritten();
         membersAreAsWritten();
         classesInsideAreHidden();
+        callsStandUnderTheirLines(args.length > 1 ? args[1] : "");
         Check.end();
     }
 
     private static void constantsAreAsWritten() {
+        Check.sentence("NONE = -1: There is none");
         Check.due("NONE", SheetMaker.NONE, -1);
+        Check.sentence("RIGHT = 0, LEFT = 1, ABOVE = 2, BELOW = 3: Sides of labels");
         Check.due("RIGHT", SheetMaker.RIGHT, 0);
         Check.due("LEFT", SheetMaker.LEFT, 1);
         Check.due("ABOVE", SheetMaker.ABOVE, 2);
         Check.due("BELOW", SheetMaker.BELOW, 3);
+        Check.sentence("The public face");
         TreeSet<String> fields = new TreeSet<>();
         for (Field field : SheetMaker.class.getDeclaredFields()) {
             int modifiers = field.getModifiers();
@@ -89,6 +96,23 @@ final class FaceTests {
             Check.due(inside.getName() + " is static", Modifier.isStatic(modifiers), true);
             Check.due(inside.getName() + " is hidden", Modifier.isPublic(modifiers) || Modifier.isProtected(modifiers),
                 false);
+        }
+    }
+
+    private static void callsStandUnderTheirLines(String program) {
+        Check.sentence("Ahead of the calls draft, road, move, name, shift the interface says: ---- roads and names. "
+            + "Ahead of the calls points, left, meetings, meetingsByPairs the interface says: ---- scales. "
+            + "Ahead of the calls sheet, label, at, print, sell, stock, errata the interface says: ---- sheets");
+        String[] lines = {"// ---- roads and names\n", "int draft(", "int road(", "int move(", "int name(",
+            "int shift(", "// ---- scales\n", "int points(", "int left(", "int meetings(", "int meetingsByPairs(",
+            "// ---- sheets\n", "int sheet(", "int label(", "int at(", "int print(", "int sell(", "int stock(",
+            "int errata("};
+        int from = 0;
+        for (String line : lines) {
+            String written = line.startsWith("int ") ? "    public " + line : "    " + line;
+            int found = program.indexOf(written, from);
+            Check.due("'" + line.trim() + "' stands in its order in the program's text", found >= 0, true);
+            from = Math.max(from, found);
         }
     }
 }

@@ -45,7 +45,7 @@ final class PrintTests {
             copies[sheet] -= 1 + turn / 3;
             Check.sentence("Promise 15: Sells copies of a sheet");
             Check.due("errata of what is sold", maker.sell(sheet, 1 + turn / 3), 0);
-            Check.sentence("Promise 16: Returns the stock of a sheet");
+            Check.sentence("Promise 16: Returns how many copies");
             for (int s = 0; s < 6; s++) {
                 Check.due("stock of sheet " + s + " in turn " + turn, maker.stock(s), copies[s]);
             }

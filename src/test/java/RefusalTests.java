@@ -25,6 +25,7 @@ final class RefusalTests {
     }
 
     public static void main(String[] args) {
+        kindsOfRefusals();
         inANewObject();
         inSomeObject();
         inAFullObject();
@@ -57,6 +58,31 @@ final class RefusalTests {
 
     private static void notAllowed(String what, Taking call) {
         refused(what, Check.REFUSED, call);
+    }
+
+    // ---- each kind of refusal, where all else is as it should be
+
+    private static void kindsOfRefusals() {
+        SheetMaker maker = some();
+        Check.sentence("IndexOutOfBoundsException: there is no such road, point, name, scale or sheet");
+        Check.dueThrow("no such road", Check.NO_SUCH, () -> maker.left(3, 0));
+        Check.dueThrow("no such point", Check.NO_SUCH, () -> maker.move(0, 3, 1, 1));
+        Check.dueThrow("no such name", Check.NO_SUCH, () -> maker.label(0, 4));
+        Check.dueThrow("no such scale", Check.NO_SUCH, () -> maker.left(0, 4));
+        Check.dueThrow("no such sheet", Check.NO_SUCH, () -> maker.label(2, 0));
+        Check.sentence("IllegalArgumentException: another argument is out of range");
+        Check.dueThrow("an x", Check.OUT_OF_RANGE, () -> maker.draft(40, 0));
+        Check.dueThrow("a y", Check.OUT_OF_RANGE, () -> maker.shift(0, 0, 40));
+        Check.dueThrow("a rank", Check.OUT_OF_RANGE, () -> maker.name(0, 0, 1, 4));
+        Check.dueThrow("a length", Check.OUT_OF_RANGE, () -> maker.name(0, 0, 9, 0));
+        Check.dueThrow("an end of a sheet", Check.OUT_OF_RANGE, () -> maker.sheet(0, 1, 0, 0, 0, NONE));
+        Check.dueThrow("a fold", Check.OUT_OF_RANGE, () -> maker.sheet(0, 0, 0, 0, 0, 40));
+        Check.dueThrow("a number of copies", Check.OUT_OF_RANGE, () -> maker.print(0, 101));
+        Check.sentence("IllegalStateException: as the method says");
+        Check.dueThrow("a draft of one point", Check.REFUSED, () -> maker.road(0));
+        Check.dueThrow("the draft's last place", Check.REFUSED, () -> maker.draft(30, 30));
+        Check.dueThrow("the place of the point behind", Check.REFUSED, () -> maker.move(0, 0, 5, 0));
+        Check.dueThrow("more than the stock", Check.REFUSED, () -> maker.sell(0, 51));
     }
 
     // ---- all that an object holds, asked for by the calls of the face

@@ -39,7 +39,8 @@ final class SheetTermTests {
     }
 
     private static void namesOnTheEdgesAreOnTheSheet() {
-        Check.sentence("from a left x to a right one and from a low y to a high one, all included");
+        Check.sentence("A sheet has a scale, the places from a left x to a right one and from a low y to a high one, "
+            + "all included");
         for (int x = 9; x <= 16; x++) {
             for (int y = 19; y <= 24; y++) {
                 SheetMaker maker = new SheetMaker();
